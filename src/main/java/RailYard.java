@@ -682,7 +682,7 @@ public final class RailYard {
             }
         }
 
-        /** Lays a body from its head back; it stays shorter than length where a piece is wanting. */
+        /** Lays a body from its head back; it stays shorter where a piece is wanting. */
         void layBody(Grid grid, int head, int length) {
             count = 0;
             int run = head;
@@ -797,10 +797,8 @@ public final class RailYard {
                 int tile = exit % TILES;
                 int edge = exit / TILES;
                 for (int piece = 0; piece < PIECES; piece++) {
-                    int place = Spot.place(tile, piece);
-                    // A way ends on the goal: what leads on from there is no way to it.
-                    if (place != goal && grid.meets(tile, piece, edge)) {
-                        offer(grid, s, Spot.run(place, edge), least[s][exit]);
+                    if (grid.meets(tile, piece, edge)) {
+                        offer(grid, s, Spot.run(Spot.place(tile, piece), edge), least[s][exit]);
                     }
                 }
             }

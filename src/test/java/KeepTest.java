@@ -9,6 +9,8 @@ public final class KeepTest {
         thatItHasLoaded();
         keptLast();
         fullAgain();
+        ordersAddedSince();
+        nothingIsLeftOver();
         CHECK.end();
     }
 
@@ -136,6 +138,49 @@ public final class KeepTest {
         CHECK.due("more than once", yard.pieces(1, 1), 0);
         yard.restore();
         CHECK.due("and again", yard.clock(), 2);
+    }
+
+    private static void ordersAddedSince() {
+        RailYard yard = Lay.line(new RailYard(8, 3), 1, 7);
+        yard.station(7, 1, 0, 0);
+        yard.train(1, 1, 0, 1, 1);
+        yard.save();
+        yard.order(0, 0);
+        yard.restore();
+        CHECK.due("no orders", yard.target(0), -1);
+        CHECK.due("tick(1)", yard.tick(1), 0);
+        for (int i = 1; i <= 6; i++) {
+            CHECK.due("order " + i, yard.order(0, 0), true);
+        }
+        CHECK.due("order 7", yard.order(0, 0), false);
+    }
+
+    /** Whatever the train before was at when all was restored, a new one starts afresh. */
+    private static void nothingIsLeftOver() {
+        RailYard yard = new RailYard(8, 3);
+        for (int ticks = 0; ticks <= 14; ticks++) {
+            layWithTwoOrders(yard);
+            yard.tick(ticks);
+            yard.restore();
+            layWithTwoOrders(yard);
+            String when = "after a restore at tick " + ticks + ": ";
+            CHECK.due(when + "target", yard.target(0), 0);
+            CHECK.due(when + "motion", yard.motion(0), 0);
+            CHECK.due(when + "load", yard.load(0), 0);
+            CHECK.due(when + "waiting", yard.waiting(0), 0);
+            yard.tick(1);
+            CHECK.due(when + "it is due", yard.motion(0), 20000);
+            yard.restore();
+        }
+    }
+
+    private static void layWithTwoOrders(RailYard yard) {
+        Lay.line(yard, 1, 7);
+        yard.station(1, 1, 0, 3);
+        yard.station(6, 1, 0, 4);
+        yard.train(1, 1, 0, 1, 1);
+        yard.order(0, 0);
+        yard.order(0, 1);
     }
 
     private static void fullAgain() {

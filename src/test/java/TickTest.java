@@ -5,6 +5,7 @@ public final class TickTest {
     public static void main(String[] args) {
         howManyTicks();
         fasterAndSlower();
+        neverFasterThanThree();
         oneTickAtATime();
         fromSignalToSignal();
         wholeOrNotAtAll();
@@ -53,6 +54,17 @@ public final class TickTest {
         CHECK.due("its place", yard.held(0, 0), Lay.code(3, 5, 0, 3));
         CHECK.due("it holds no more", yard.held(0, 1), -1);
         CHECK.due("what it passed is free", yard.holder(4, 5, 0), -1);
+    }
+
+    private static void neverFasterThanThree() {
+        RailYard yard = Lay.ring(new RailYard(8, 6), 7, 5);
+        yard.station(1, 5, 0, 0);
+        yard.train(0, 1, 1, 0, 1);
+        yard.order(0, 0);
+        CHECK.due("tick(3): 19 granted", yard.tick(3), 6);
+        CHECK.due("motion", yard.motion(0), 3013);
+        CHECK.due("tick(1)", yard.tick(1), 3);
+        CHECK.due("motion", yard.motion(0), 3010);
     }
 
     private static void oneTickAtATime() {
@@ -153,6 +165,16 @@ public final class TickTest {
         CHECK.due("4 ahead", yard.motion(0), 3004);
         CHECK.due("tick(1): 2 more", yard.tick(1), 3);
         CHECK.due("3 ahead", yard.motion(0), 3003);
+        RailYard five = Lay.ring(new RailYard(8, 6), 7, 5);
+        five.station(3, 5, 0, 0);
+        five.signal(6, 0, 0, 1, true);
+        five.signal(7, 2, 1, 2, true);
+        five.train(0, 0, 5, 1, 1);
+        five.order(0, 0);
+        CHECK.due("tick(1): 6 granted", five.tick(1), 1);
+        CHECK.due("5 ahead", five.motion(0), 1005);
+        CHECK.due("tick(1): 3 more", five.tick(1), 2);
+        CHECK.due("6 ahead", five.motion(0), 2006);
     }
 
     private static void loading() {

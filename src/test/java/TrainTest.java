@@ -200,6 +200,11 @@ public final class TrainTest {
         yard.tick(1);
         CHECK.due("reverse", yard.reverse(0), true);
         CHECK.due("held", yard.held(0, 1), Lay.code(6, 1, 0, 3));
+        RailYard against = Lay.line(new RailYard(8, 3), 1, 7);
+        against.signal(3, 1, 0, 3, true);
+        against.train(4, 1, 0, 1, 3);
+        CHECK.due("reverse: on a signal, against it", against.reverse(0), false);
+        CHECK.due("held: as before", against.held(0, 2), Lay.code(4, 1, 0, 1));
         RailYard moving = Lay.line(new RailYard(8, 3), 1, 7);
         moving.station(7, 1, 0, 0);
         moving.signal(2, 1, 0, 1, true);
