@@ -66,24 +66,30 @@ public final class KeepTest {
         CHECK.due("to the new one", yard.toGo(0, 1, 0, 1, 1), 30);
     }
 
-    private static void midway() {
+    /** A train that goes round from station to station, after some ticks. */
+    private static RailYard onItsWay(int ticks) {
         RailYard yard = Lay.ring(new RailYard(8, 6), 7, 5);
         yard.station(3, 5, 0, 4);
         yard.station(3, 0, 0, 9);
         yard.train(1, 0, 0, 1, 2);
         yard.order(0, 0);
         yard.order(0, 1);
+        Lay.ticks(yard, ticks);
+        return yard;
+    }
+
+    private static void midway() {
         for (int i = 0; i < 30; i++) {
+            RailYard yard = onItsWay(i);
             yard.save();
-            String answers = tenTicks(yard);
+            yard.tick(10);
             yard.order(0, 1);
             yard.restore();
-            CHECK.due("the same again, " + i, tenTicks(yard).equals(answers), true);
-            yard.restore();
-            yard.tick(1);
-            CHECK.due("clock()", yard.clock(), i + 1);
+            CHECK.same("ten ticks after a restore at tick " + i, tenTicks(yard),
+                tenTicks(onItsWay(i)));
+            CHECK.due("clock()", yard.clock(), i + 10);
         }
-        CHECK.due("the run came to something", yard.delivered() > 0, true);
+        CHECK.due("the run came to something", onItsWay(29).delivered() > 0, true);
     }
 
     private static String tenTicks(RailYard yard) {
@@ -94,7 +100,7 @@ public final class KeepTest {
             answers.append(yard.waiting(0)).append(' ').append(yard.waiting(1)).append(' ');
             answers.append(yard.produced()).append(' ').append(yard.delivered()).append(' ');
             answers.append(yard.blocked()).append(' ').append(yard.clock()).append(' ');
-            for (int k = 0; k < 25; k++) {
+            for (int k = 0; yard.held(0, k) >= 0; k++) {
                 answers.append(yard.held(0, k)).append(',');
             }
         }
@@ -157,8 +163,8 @@ public final class KeepTest {
 
     /** Whatever the train before was at when all was restored, a new one starts afresh. */
     private static void nothingIsLeftOver() {
-        RailYard yard = new RailYard(8, 3);
         for (int ticks = 0; ticks <= 14; ticks++) {
+            RailYard yard = new RailYard(8, 3);
             layWithTwoOrders(yard);
             yard.tick(ticks);
             yard.restore();
@@ -170,7 +176,6 @@ public final class KeepTest {
             CHECK.due(when + "waiting", yard.waiting(0), 0);
             yard.tick(1);
             CHECK.due(when + "it is due", yard.motion(0), 20000);
-            yard.restore();
         }
     }
 

@@ -67,6 +67,8 @@ final class PlainYard {
     int delivered;
     int clock;
     private PlainYard kept;
+    /** What allToGo() found since the map was last touched, for else it takes most of the time. */
+    private final Map<Piece, Map<Run, Integer>> sums = new HashMap<>();
 
     PlainYard(int width, int height) {
         this.width = width < 3 ? 3 : width > 8 ? 8 : width;
@@ -76,6 +78,7 @@ final class PlainYard {
     // The map
 
     boolean track(int x, int y, int number, boolean build) {
+        sums.clear();
         if (!onMap(x, y) || number < 0 || number > 5 || heldTile(x, y)) {
             return false;
         }
@@ -87,6 +90,7 @@ final class PlainYard {
     }
 
     boolean signal(int x, int y, int number, int edge, boolean put) {
+        sums.clear();
         Piece piece = new Piece(x, y, number);
         if (!built.containsKey(piece) || !edges(piece).contains(edge) || heldTile(x, y)
             || stationOn(piece) != null) {
@@ -219,6 +223,9 @@ final class PlainYard {
     }
 
     private Map<Run, Integer> allToGo(Piece goal) {
+        if (sums.containsKey(goal)) {
+            return sums.get(goal);
+        }
         Map<Run, Integer> least = new HashMap<>();
         for (Piece piece : built.keySet()) {
             for (int edge : edges(piece)) {
@@ -238,6 +245,7 @@ final class PlainYard {
                 }
             }
         }
+        sums.put(goal, least);
         return least;
     }
 
@@ -254,7 +262,7 @@ final class PlainYard {
     /** The whole way; empty when there is none. */
     private List<Run> way(Run from, Piece goal) {
         Map<Run, Integer> least = allToGo(goal);
-        List<Run> found = new ArrayList<>();
+        List<Run> runs = new ArrayList<>();
         Run run = from;
         do {
             Run best = null;
@@ -267,10 +275,10 @@ final class PlainYard {
             if (best == null) {
                 return new ArrayList<>();
             }
-            found.add(best);
+            runs.add(best);
             run = best;
         } while (!run.piece().equals(goal));
-        return found;
+        return runs;
     }
 
     // Trains
@@ -507,6 +515,7 @@ final class PlainYard {
     }
 
     private void take(PlainYard other) {
+        sums.clear();
         built = new LinkedHashMap<>();
         for (Map.Entry<Piece, Set<Integer>> entry : other.built.entrySet()) {
             built.put(entry.getKey(), new HashSet<>(entry.getValue()));

@@ -1,14 +1,20 @@
 import java.util.ArrayList;
+import java.util.List;
 import java.util.Random;
+import java.util.function.BooleanSupplier;
+import java.util.function.IntSupplier;
 
 /**
- * Long runs of calls, drawn from fixed seeds, on RailYard and on PlainYard: every answer, and all
- * that can be asked after it, must be the same. Arguments out of range are drawn too.
- * An argument of the program says how many runs; without it there are 400.
+ * Runs of 512 calls, drawn from fixed seeds, on RailYard and on PlainYard: every answer must be
+ * the same. Arguments out of range are drawn too, and after some of the calls, and at the end, what
+ * the trains are at is asked for; at the end the map too, as far as the calls reach.
+ * An argument of the program says how many runs; without it there are 3000.
  */
 public final class RandomRunsTest {
-    private static final int RUNS = 400;
+    private static final int RUNS = 3000;
+    /** An object is used for no more. */
     private static final int CALLS = 512;
+    private static final int KEPT_FOR_THE_END = 180;
 
     private final Check check;
     private final int seed;
@@ -44,21 +50,21 @@ public final class RandomRunsTest {
         for (int seed = 1; seed <= runs; seed++) {
             new RandomRunsTest(check, seed).run();
         }
-        check.due("pieces were moved", movedPieces > 1000, true);
-        check.due("trains were blocked", blockedTrains > 100, true);
-        check.due("cargo was delivered", deliveredCargo > 1000, true);
-        check.due("trains were turned", turnedTrains > 100, true);
-        check.due("more than six were reserved ahead", longRows > 10, true);
+        check.due("pieces were moved", movedPieces > 20 * runs, true);
+        check.due("trains were blocked", blockedTrains > runs / 10, true);
+        check.due("cargo was delivered", deliveredCargo > 10 * runs, true);
+        check.due("trains were turned", turnedTrains > runs, true);
+        check.due("more than six were reserved ahead", longRows > runs / 10, true);
         check.end();
     }
 
     private void run() {
         switch (seed % 5) {
-            case 0: break;
-            case 4: layBusyRing(); break;
+            case 0: layBusyRing(random.nextInt(3)); break;
             case 1: layRing(); break;
             case 2: layRing(); layRing(); scatter(random.nextInt(8)); break;
-            default: scatter(25 + random.nextInt(70)); break;
+            case 3: scatter(25 + random.nextInt(70)); break;
+            default: layBusyRing(10); break;
         }
         for (int i = random.nextInt(8); i > 0; i--) {
             station();
@@ -73,12 +79,13 @@ public final class RandomRunsTest {
             order();
         }
         if (random.nextInt(8) > 0) {
-            plain.save();
-            yard.save();
+            keep(true);
         }
-        while (calls < CALLS) {
+        while (calls < CALLS - KEPT_FOR_THE_END) {
             anyCall();
         }
+        askTrains();
+        askMap();
         deliveredCargo += plain.delivered;
     }
 
@@ -96,41 +103,43 @@ public final class RandomRunsTest {
             train();
         } else if (kind < 78) {
             order();
-        } else if (kind < 88) {
+        } else if (kind < 84) {
             reverse();
-        } else if (kind < 98) {
+        } else if (kind < 90) {
             askWildly();
+        } else if (kind < 93) {
+            blocked();
+        } else if (kind < 98) {
+            askOneTrain();
         } else {
-            keep();
+            keep(random.nextInt(3) > 0);
         }
     }
 
-    /** A ring as large as the map, run through clockwise, with sidings, trains and much to do. */
-    private void layBusyRing() {
-        layRing(plain.width - 1, plain.height - 1);
-        for (int x = 1; x < plain.width - 1; x++) {
-            light(x, 0, 0, 1, random.nextInt(2));
-            light(x, plain.height - 1, 0, 3, random.nextInt(2));
-        }
-        for (int y = 1; y < plain.height - 1; y++) {
-            light(0, y, 1, 0, random.nextInt(2));
-            light(plain.width - 1, y, 1, 2, random.nextInt(2));
+    /**
+     * A ring as large as the map, run through clockwise, with a siding or two, trains and much to
+     * do; about half of so many of its pieces get a signal.
+     */
+    private void layBusyRing(int signals) {
+        int right = plain.width - 1;
+        int bottom = plain.height - 1;
+        layRing(right, bottom);
+        int[][] round = Lay.round(right, bottom);
+        for (int i = random.nextInt(signals + 1); i > 0; i--) {
+            int[] on = round[random.nextInt(round.length)];
+            putSignal(new PlainYard.Piece(on[0], on[1], on[2]), on[3], true);
         }
         for (int i = 0; i < 4; i++) {
             station();
             track();
         }
+        for (int i = random.nextInt(4); i >= 0; i--) {
+            int[] on = round[random.nextInt(round.length)];
+            putTrain(on[0], on[1], on[2], on[3]);
+        }
         for (int i = 0; i < 12; i++) {
-            train();
             order();
             tick();
-        }
-    }
-
-    private void light(int x, int y, int piece, int edge, int chance) {
-        if (chance > 0) {
-            same("signal(" + x + ", " + y + ", " + piece + ", " + edge + ", true)",
-                yard.signal(x, y, piece, edge, true), plain.signal(x, y, piece, edge, true));
         }
     }
 
@@ -193,24 +202,31 @@ public final class RandomRunsTest {
         return random.nextInt(30) == 0 ? wild() : random.nextInt(6);
     }
 
+    /** Mostly the number of one that is there. */
+    private int oneOf(int many) {
+        return many == 0 || random.nextInt(8) == 0 ? number() : random.nextInt(many);
+    }
+
     private int wild() {
         int[] some = {-1, -2, 3, 6, 7, 8, 9, 64, 512, Integer.MAX_VALUE, Integer.MIN_VALUE};
         return some[random.nextInt(some.length)];
     }
 
-    private void same(String call, long got, long want) {
-        calls++;
-        check.due("seed " + seed + ", call " + calls + ": " + call, got, want);
-        askAll();
+    private void same(String call, IntSupplier got, IntSupplier want) {
+        if (calls < CALLS) {
+            calls++;
+            check.due("seed " + seed + ", call " + calls + ": " + call, got.getAsInt(),
+                want.getAsInt());
+        }
     }
 
-    private void same(String call, boolean got, boolean want) {
-        same(call, got ? 1L : 0L, want ? 1L : 0L);
+    private void done(String call, BooleanSupplier got, BooleanSupplier want) {
+        same(call, () -> got.getAsBoolean() ? 1 : 0, () -> want.getAsBoolean() ? 1 : 0);
     }
 
     private void lay(int x, int y, int piece) {
-        same("track(" + x + ", " + y + ", " + piece + ", true)",
-            yard.track(x, y, piece, true), plain.track(x, y, piece, true));
+        done("track(" + x + ", " + y + ", " + piece + ", true)",
+            () -> yard.track(x, y, piece, true), () -> plain.track(x, y, piece, true));
     }
 
     private void track() {
@@ -218,19 +234,21 @@ public final class RandomRunsTest {
         int y = y();
         int piece = piece();
         boolean build = random.nextInt(4) > 0;
-        same("track(" + x + ", " + y + ", " + piece + ", " + build + ")",
-            yard.track(x, y, piece, build), plain.track(x, y, piece, build));
+        done("track(" + x + ", " + y + ", " + piece + ", " + build + ")",
+            () -> yard.track(x, y, piece, build), () -> plain.track(x, y, piece, build));
     }
 
     private void signal() {
         PlainYard.Piece on = anyPiece();
+        putSignal(on, edge(), random.nextInt(3) > 0);
+    }
+
+    private void putSignal(PlainYard.Piece on, int edge, boolean put) {
         int x = on.x();
         int y = on.y();
         int piece = on.number();
-        int edge = edge();
-        boolean put = random.nextInt(3) > 0;
-        same("signal(" + x + ", " + y + ", " + piece + ", " + edge + ", " + put + ")",
-            yard.signal(x, y, piece, edge, put), plain.signal(x, y, piece, edge, put));
+        done("signal(" + x + ", " + y + ", " + piece + ", " + edge + ", " + put + ")",
+            () -> yard.signal(x, y, piece, edge, put), () -> plain.signal(x, y, piece, edge, put));
     }
 
     private void station() {
@@ -240,49 +258,64 @@ public final class RandomRunsTest {
         int piece = on.number();
         int rate = random.nextInt(10) == 0 ? random.nextInt(60) - 5 : random.nextInt(20);
         same("station(" + x + ", " + y + ", " + piece + ", " + rate + ")",
-            yard.station(x, y, piece, rate), plain.station(x, y, piece, rate));
+            () -> yard.station(x, y, piece, rate), () -> plain.station(x, y, piece, rate));
     }
 
     private void train() {
         PlainYard.Piece on = anyPiece();
-        int x = on.x();
-        int y = on.y();
-        int piece = on.number();
-        int edge = edge();
+        putTrain(on.x(), on.y(), on.number(), edge());
+    }
+
+    private void putTrain(int x, int y, int piece, int edge) {
         int length = random.nextInt(3) == 0 ? random.nextInt(7) : 1 + random.nextInt(2);
         same("train(" + x + ", " + y + ", " + piece + ", " + edge + ", " + length + ")",
-            yard.train(x, y, piece, edge, length), plain.train(x, y, piece, edge, length));
+            () -> yard.train(x, y, piece, edge, length),
+            () -> plain.train(x, y, piece, edge, length));
     }
 
     private void order() {
-        int t = number();
-        int s = random.nextInt(4) > 0 ? random.nextInt(1 + plain.stations.size()) : number();
-        same("order(" + t + ", " + s + ")", yard.order(t, s), plain.order(t, s));
+        int t = oneOf(plain.trains.size());
+        int s = oneOf(plain.stations.size());
+        done("order(" + t + ", " + s + ")", () -> yard.order(t, s), () -> plain.order(t, s));
     }
 
     private void reverse() {
-        int t = number();
-        boolean turned = plain.reverse(t);
-        turnedTrains += turned ? 1 : 0;
-        same("reverse(" + t + ")", yard.reverse(t), turned);
+        int t = oneOf(plain.trains.size());
+        done("reverse(" + t + ")", () -> yard.reverse(t), () -> {
+            boolean turned = plain.reverse(t);
+            turnedTrains += turned ? 1 : 0;
+            return turned;
+        });
     }
 
     private void tick() {
-        int n = random.nextInt(6) > 0 ? 1 : random.nextInt(24) - 1;
-        int moved = plain.tick(n);
-        movedPieces += Math.max(moved, 0);
-        same("tick(" + n + ")", yard.tick(n), moved);
+        int n = random.nextInt(6) > 0 ? 1 + random.nextInt(3) : random.nextInt(24) - 1;
+        same("tick(" + n + ")", () -> yard.tick(n), () -> {
+            int moved = plain.tick(n);
+            movedPieces += Math.max(moved, 0);
+            for (int t = 0; t < plain.trains.size(); t++) {
+                longRows += plain.motion(t) % 1000 > 6 ? 1 : 0;
+            }
+            return moved;
+        });
     }
 
-    private void keep() {
-        if (random.nextInt(3) > 0) {
-            plain.save();
-            yard.save();
-        } else {
-            plain.restore();
-            yard.restore();
-        }
-        same("save or restore", 0, 0);
+    private void keep(boolean save) {
+        same(save ? "save()" : "restore()", () -> {
+            if (save) {
+                yard.save();
+            } else {
+                yard.restore();
+            }
+            return 0;
+        }, () -> {
+            if (save) {
+                plain.save();
+            } else {
+                plain.restore();
+            }
+            return 0;
+        });
     }
 
     private void askWildly() {
@@ -293,49 +326,86 @@ public final class RandomRunsTest {
         int edge = edge();
         int s = number();
         same("toGo(" + x + ", " + y + ", " + piece + ", " + edge + ", " + s + ")",
-            yard.toGo(x, y, piece, edge, s), plain.toGo(x, y, piece, edge, s));
-        same("pieces", yard.pieces(x, y), plain.pieces(x, y));
-        same("signals", yard.signals(x, y, piece), plain.signals(x, y, piece));
-        same("holder", yard.holder(x, y, piece), plain.holder(x, y, piece));
-        same("held", yard.held(s, edge), plain.held(s, edge));
-        same("motion", yard.motion(s), plain.motion(s));
-        same("load", yard.load(s), plain.load(s));
-        same("target", yard.target(s), plain.target(s));
-        same("waiting", yard.waiting(s), plain.waiting(s));
-        int stuck = plain.blocked();
-        blockedTrains += Integer.bitCount(stuck);
-        same("blocked", yard.blocked(), stuck);
+            () -> yard.toGo(x, y, piece, edge, s), () -> plain.toGo(x, y, piece, edge, s));
+        same("pieces", () -> yard.pieces(x, y), () -> plain.pieces(x, y));
+        same("signals", () -> yard.signals(x, y, piece), () -> plain.signals(x, y, piece));
+        same("holder", () -> yard.holder(x, y, piece), () -> plain.holder(x, y, piece));
+        same("held", () -> yard.held(s, edge), () -> plain.held(s, edge));
+        same("waiting", () -> yard.waiting(s), () -> plain.waiting(s));
+        askOfTrain(s);
     }
 
-    private void askAll() {
-        String when = "seed " + seed + ", after call " + calls + ": ";
-        check.due(when + "clock", yard.clock(), plain.clock);
-        check.due(when + "produced", yard.produced(), plain.produced);
-        check.due(when + "delivered", yard.delivered(), plain.delivered);
+    private void blocked() {
+        same("blocked()", yard::blocked, () -> {
+            int stuck = plain.blocked();
+            blockedTrains += Integer.bitCount(stuck);
+            return stuck;
+        });
+    }
+
+    private void askOneTrain() {
+        askOfTrain(random.nextInt(6));
+        same("clock()", yard::clock, () -> plain.clock);
+    }
+
+    private void askOfTrain(int t) {
+        same("motion(" + t + ")", () -> yard.motion(t), () -> plain.motion(t));
+        same("load(" + t + ")", () -> yard.load(t), () -> plain.load(t));
+        same("target(" + t + ")", () -> yard.target(t), () -> plain.target(t));
+    }
+
+    private void askTrains() {
+        same("clock()", yard::clock, () -> plain.clock);
+        same("produced()", yard::produced, () -> plain.produced);
+        same("delivered()", yard::delivered, () -> plain.delivered);
+        blocked();
+        List<Integer> all = new ArrayList<>();
         for (int i = 0; i < 6; i++) {
-            check.due(when + "waiting " + i, yard.waiting(i), plain.waiting(i));
-            check.due(when + "motion " + i, yard.motion(i), plain.motion(i));
-            check.due(when + "load " + i, yard.load(i), plain.load(i));
-            check.due(when + "target " + i, yard.target(i), plain.target(i));
-            int count = i < plain.trains.size() ? plain.trains.get(i).all().size() : 0;
-            for (int k = 0; k <= count; k++) {
-                check.due(when + "held " + i + ", " + k, yard.held(i, k), plain.held(i, k));
+            int t = i;
+            same("waiting(" + t + ")", () -> yard.waiting(t), () -> plain.waiting(t));
+            askOfTrain(t);
+            int count = t < plain.trains.size() ? plain.trains.get(t).all().size() : 0;
+            for (int j = 0; j <= count; j++) {
+                int k = j;
+                same("held(" + t + ", " + k + ")", () -> yard.held(t, k), () -> {
+                    int held = plain.held(t, k);
+                    all.add(held);
+                    return held;
+                });
             }
-            longRows += plain.motion(i) % 1000 > 6 ? 1 : 0;
         }
-        if (calls % 16 == 0) {
-            askMap(when);
-        }
+        check.due("seed " + seed + ": held pieces that cross", crossings(all), 0);
     }
 
-    private void askMap(String when) {
-        for (int x = 0; x < plain.width; x++) {
-            for (int y = 0; y < plain.height; y++) {
-                check.due(when + "pieces", yard.pieces(x, y), plain.pieces(x, y));
-                for (int piece = 0; piece < 6; piece++) {
-                    check.due(when + "signals", yard.signals(x, y, piece),
-                        plain.signals(x, y, piece));
-                    check.due(when + "holder", yard.holder(x, y, piece), plain.holder(x, y, piece));
+    /** "No piece is held by two trains, or crosses one that another train holds." */
+    private static int crossings(List<Integer> held) {
+        int found = 0;
+        for (int i = 0; i < held.size(); i++) {
+            for (int j = 0; j < i; j++) {
+                int a = held.get(i) / 64 % 8;
+                int b = held.get(j) / 64 % 8;
+                boolean apart = a != b && (a + b == 9 || a + b == 5 && a / 2 == 1);
+                boolean oneTile = held.get(i) >= 0 && held.get(j) >= 0
+                    && held.get(i) % 64 == held.get(j) % 64;
+                found += oneTile && !apart ? 1 : 0;
+            }
+        }
+        return found;
+    }
+
+    private void askMap() {
+        int from = random.nextInt(48);
+        for (int i = 0; i < 48 && calls < CALLS; i++) {
+            int x = (from + i) % 8;
+            int y = (from + i) / 8 % 6;
+            same("pieces", () -> yard.pieces(x, y), () -> plain.pieces(x, y));
+            for (int p = 0; p < 6; p++) {
+                int piece = p;
+                if (plain.signals(x, y, p) >= 0) {
+                    same("signals", () -> yard.signals(x, y, piece),
+                        () -> plain.signals(x, y, piece));
+                    same("holder", () -> yard.holder(x, y, piece),
+                        () -> plain.holder(x, y, piece));
                 }
             }
         }
