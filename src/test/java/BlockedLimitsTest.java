@@ -66,6 +66,18 @@ public final class BlockedLimitsTest {
         yard.tick(1);
         CHECK.due("motion", yard.motion(1), 0);
         CHECK.due("blocked: it has loaded", yard.blocked(), 3);
+        RailYard round = Lay.ring(new RailYard(4, 4), 3, 3);
+        round.station(1, 0, 0, 0);
+        round.train(1, 0, 0, 1, 1);
+        round.order(0, 0);
+        int[] blocked = {0, 0, 0, 1, 1};
+        for (int ticks = 0; ticks < blocked.length; ticks++) {
+            CHECK.due("blocked, itself in its way round, tick " + ticks,
+                round.blocked(), blocked[ticks]);
+            round.tick(1);
+        }
+        round.reverse(0);
+        CHECK.due("blocked: turned, it is due again", round.blocked(), 0);
     }
 
     private static void hasSpeedZeroAndNoneAhead() {

@@ -13,6 +13,8 @@ public final class KeepLimitsTest {
         keptLast();
         keptAndGoneOnWith();
         numbersGivenAgain();
+        sixAndSix();
+        aShorterOneInItsPlace();
         CHECK.end();
     }
 
@@ -183,6 +185,46 @@ public final class KeepLimitsTest {
         CHECK.due("toGo to where it is now", yard.toGo(7, 1, 0, 3, 1), 10);
         yard.tick(1);
         CHECK.due("waiting(1)", yard.waiting(1), 4);
+    }
+
+    private static void sixAndSix() {
+        CHECK.about("22: all stations and all trains, six and six");
+        RailYard yard = new RailYard(8, 6);
+        for (int y = 0; y < 6; y++) {
+            Lay.line(yard, y, 7);
+            yard.station(6, y, 0, y + 1);
+            yard.train(y / 2 + 1, y, 0, 1, 2);
+            yard.order(y, y);
+        }
+        yard.tick(2);
+        yard.save();
+        int moved = yard.tick(7);
+        int produced = yard.produced();
+        yard.restore();
+        for (int i = 0; i < 6; i++) {
+            CHECK.due("waiting(" + i + ")", yard.waiting(i), 2 * (i + 1));
+            CHECK.due("motion(" + i + ")", yard.motion(i), new int[] {2002, 2001, 1001}[i / 2]);
+            CHECK.due("held(" + i + ", 0)", yard.held(i, 0),
+                Lay.code(new int[] {3, 4, 4}[i / 2], i, 0, 1));
+        }
+        CHECK.due("tick(7)", yard.tick(7), moved);
+        CHECK.due("produced", yard.produced(), produced);
+    }
+
+    /** What was left of a longer train on signals is nothing to the one that has its number now. */
+    private static void aShorterOneInItsPlace() {
+        CHECK.about("23: all is as it was: nothing of a train that was made since");
+        RailYard yard = Lay.line(new RailYard(8, 3), 1, 7);
+        for (int x = 0; x < 5; x++) {
+            yard.signal(x, 1, 0, 1, true);
+        }
+        yard.save();
+        CHECK.due("train", yard.train(5, 1, 0, 1, 5), 0);
+        CHECK.due("reverse, on signals", yard.reverse(0), false);
+        yard.restore();
+        CHECK.due("train", yard.train(6, 1, 0, 1, 2), 0);
+        CHECK.due("held", yard.held(0, 2), -1);
+        CHECK.due("reverse, on none", yard.reverse(0), true);
     }
 
     private static long bit(boolean answer) {

@@ -12,6 +12,7 @@ public final class MapLimitsTest {
 
     public static void main(String[] args) {
         sizes();
+        withoutAnything();
         tilesOfTheMap();
         noSuchTile();
         noSuchPiece();
@@ -47,6 +48,29 @@ public final class MapLimitsTest {
                 CHECK.due(made + "in the last corner", yard.pieces(lastX, lastY), 0);
                 CHECK.due(made + "east of it", yard.pieces(lastX + 1, lastY), -1);
                 CHECK.due(made + "south of it", yard.pieces(lastX, lastY + 1), -1);
+            }
+        }
+    }
+
+    private static void withoutAnything() {
+        CHECK.about("1: without track; nothing was produced, the clock is 0");
+        int[][] sizes = {{3, 3}, {8, 6}, {2, 2}, {9, 7}, {5, 4}};
+        for (int[] size : sizes) {
+            RailYard yard = new RailYard(size[0], size[1]);
+            CHECK.due("produced", yard.produced(), 0);
+            CHECK.due("delivered", yard.delivered(), 0);
+            CHECK.due("clock", yard.clock(), 0);
+            CHECK.due("blocked", yard.blocked(), 0);
+            for (int i = 0; i < 6; i++) {
+                CHECK.due("waiting", yard.waiting(i), -1);
+                CHECK.due("motion", yard.motion(i), -1);
+                CHECK.due("held", yard.held(i, 0), -1);
+                CHECK.due("signals", yard.signals(1, 1, i), -1);
+            }
+            for (int x = 0; x < 8; x++) {
+                for (int y = 0; y < 6; y++) {
+                    CHECK.due("pieces", yard.pieces(x, y) > 0, false);
+                }
             }
         }
     }

@@ -17,6 +17,7 @@ public final class RequestLimitsTest {
         wholeOrNotAtAll();
         noneWithoutAWay();
         fewerThanSix();
+        everyTileTwice();
         CHECK.end();
     }
 
@@ -369,5 +370,50 @@ public final class RequestLimitsTest {
             CHECK.due("its last", yard.held(0, then[i] - 2000),
                 Lay.code(last[0], last[1], last[2], last[3]));
         }
+    }
+
+    /** Bends 2 and 3 on a tile for 0, 4 and 5 for 1: a way of 70 pieces over 48 tiles. */
+    private static RailYard maze() {
+        String[] rows = {"10101010", "00001011", "10011000", "10110001", "00111000", "10101010"};
+        RailYard yard = new RailYard(8, 6);
+        for (int y = 0; y < 6; y++) {
+            for (int x = 0; x < 8; x++) {
+                boolean end = x == 7 && y == 5 || x == 0 && y == 2;
+                int first = rows[y].charAt(x) == '0' ? 2 : 4;
+                yard.track(x, y, end ? y == 5 ? 1 : 0 : first, true);
+                if (!end) {
+                    yard.track(x, y, first + 1, true);
+                }
+            }
+        }
+        yard.station(0, 2, 0, 0);
+        yard.train(7, 5, 1, 0, 1);
+        yard.order(0, 0);
+        return yard;
+    }
+
+    private static void everyTileTwice() {
+        CHECK.about("Terms: and then those that are reserved AHEAD: more than there are tiles");
+        RailYard yard = maze();
+        CHECK.due("toGo", yard.toGo(7, 5, 1, 0, 0), 69 * 7 + 10);
+        granted("70 pieces", yard, 0, 70);
+        CHECK.due("its last", yard.held(0, 69) % 512, Lay.code(0, 2, 0, 0));
+        CHECK.due("no more", yard.held(0, 70), -1);
+        int held = 0;
+        for (int k = 0; k < 70; k++) {
+            int code = yard.held(0, k);
+            held += yard.holder(code % 8, code / 8 % 8, code / 64 % 8) == 0 ? 1 : 0;
+        }
+        CHECK.due("all of them are held", held, 70);
+        RailYard kept = maze();
+        kept.tick(1);
+        kept.save();
+        CHECK.due("tick(20)", kept.tick(20), 2 + 19 * 3);
+        kept.restore();
+        CHECK.due("tick(20), restored", kept.tick(20), 2 + 19 * 3);
+        CHECK.due("motion", kept.motion(0), 3010);
+        CHECK.due("tick(20): it comes there", kept.tick(20), 10);
+        CHECK.due("it holds one piece", kept.held(0, 1), -1);
+        CHECK.due("the station's", kept.held(0, 0) % 512, Lay.code(0, 2, 0, 0));
     }
 }
