@@ -83,7 +83,7 @@ public final class HeldLimitsTest {
     }
 
     private static void everyTileAndEdge() {
-        CHECK.about("13: x plus 8 times y, plus 64 times the piece's number, plus 512 times the edge");
+        CHECK.about("13: x plus 8 times y, plus 64 times the piece's number, plus 512 times ...");
         int[][] joins = {{3, 1}, {0, 2}, {0, 1}, {2, 3}, {0, 3}, {1, 2}};
         for (int p = 0; p < 6; p++) {
             for (int edge : joins[p]) {

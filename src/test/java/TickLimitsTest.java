@@ -250,7 +250,7 @@ public final class TickLimitsTest {
 
     /** How a train goes that has a station so many pieces before it. */
     private static void greatestSpeed() {
-        CHECK.about("Terms: the greatest v from 0 to 3, not more than its speed before plus 1, ...");
+        CHECK.about("Terms: the greatest v from 0 to 3, not more than its speed before plus 1");
         int[][] moves = {
             {1}, {1, 1}, {1, 1, 1}, {1, 2, 1}, {1, 2, 1, 1}, {1, 2, 2, 1}, {1, 2, 2, 1, 1},
             {1, 2, 2, 2, 1}, {1, 2, 3, 2, 1}, {1, 2, 3, 2, 1, 1}, {1, 2, 3, 2, 2, 1},

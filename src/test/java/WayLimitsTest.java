@@ -60,7 +60,7 @@ public final class WayLimitsTest {
             yard.track(x + DX[out], y + DY[out], straight(out), true);
             int s = yard.station(x + DX[out], y + DY[out], straight(out), 0);
             CHECK.due("station", s, stations++);
-            CHECK.due("toGo over " + p + " with signals " + signals + " from " + edge + " to " + out,
+            CHECK.due("toGo over " + p + ", signals " + signals + ", from " + edge + " to " + out,
                 yard.toGo(3, 2, straight(edge), edge, s),
                 dueOver(p, signals, (edge + 2) % 4, out));
         }
@@ -251,7 +251,8 @@ public final class WayLimitsTest {
             int least = Math.min(track[1][2], track[2][2]);
             CHECK.due("the piece taken", yard.held(0, 0) / 64 % 8, least);
             CHECK.due("its tile", yard.held(0, 0) % 64, track[1][0] + 8 * track[1][1]);
-            CHECK.due("up to the station", yard.held(0, 5), Lay.code(last[0], last[1], last[2], edge));
+            CHECK.due("up to the station", yard.held(0, 5),
+                Lay.code(last[0], last[1], last[2], edge));
             track = turned(track, side);
         }
     }
@@ -345,7 +346,8 @@ public final class WayLimitsTest {
         for (int p : none) {
             for (int edge = 0; edge < 4; edge++) {
                 int e = edge;
-                REFUSAL.of("toGo from " + p, () -> Lay.busy(8, 6), it -> it.toGo(1, 0, p, e, 0), -1);
+                REFUSAL.of("toGo from " + p, () -> Lay.busy(8, 6),
+                    it -> it.toGo(1, 0, p, e, 0), -1);
             }
         }
         REFUSAL.of("toGo from no track", () -> Lay.busy(8, 6), it -> it.toGo(4, 2, 0, 1, 0), -1);
