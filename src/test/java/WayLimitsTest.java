@@ -22,6 +22,7 @@ public final class WayLimitsTest {
         noSuchStation();
         pieceIsNotThere();
         hasNotThisEdge();
+        everyPieceBuilt();
         CHECK.end();
     }
 
@@ -375,6 +376,38 @@ public final class WayLimitsTest {
                 boolean has = JOINS[p][0] == edge || JOINS[p][1] == edge;
                 CHECK.due("toGo from " + p + " towards " + edge,
                     yard.toGo(1, 1, p, edge, edge), has ? 10 : -1);
+            }
+        }
+    }
+
+    /** All 288 pieces, where ways branch at each of them: against the plain model. */
+    private static void everyPieceBuilt() {
+        CHECK.about("Terms: the least sum, of several the least number: on the fullest map");
+        for (int corner = 0; corner < 4; corner++) {
+            RailYard yard = new RailYard(8, 6);
+            PlainYard plain = new PlainYard(8, 6);
+            for (int i = 0; i < 8 * 6 * 6; i++) {
+                yard.track(i % 8, i / 8 % 6, i / 48, true);
+                plain.track(i % 8, i / 8 % 6, i / 48, true);
+            }
+            int x = corner % 2 * 7;
+            int y = corner / 2 * 5;
+            yard.station(x, y, corner % 2, 0);
+            plain.station(x, y, corner % 2, 0);
+            for (int i = 0; i < 8 * 6; i++) {
+                int p = (i + corner) % 6;
+                for (int edge : JOINS[p]) {
+                    CHECK.due("toGo", yard.toGo(i % 8, i / 8, p, edge, 0),
+                        plain.toGo(i % 8, i / 8, p, edge, 0));
+                }
+            }
+            yard.train(7 - x, 5 - y, 0, 3 - corner % 2 * 2, 1);
+            plain.train(7 - x, 5 - y, 0, 3 - corner % 2 * 2, 1);
+            yard.order(0, 0);
+            plain.order(0, 0);
+            CHECK.due("tick(1)", yard.tick(1), plain.tick(1));
+            for (int k = 0; k < 20; k++) {
+                CHECK.due("held(0, " + k + ")", yard.held(0, k), plain.held(0, k));
             }
         }
     }
