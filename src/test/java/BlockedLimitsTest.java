@@ -23,9 +23,7 @@ public final class BlockedLimitsTest {
 
     /** Stations 0 in the west, 1 in the east, 2 on (5, 1); train 0 on (2, 1) goes for 1. */
     private static RailYard oneFromTheWest() {
-        RailYard yard = Lay.line(new RailYard(8, 3), 1, 7);
-        yard.station(0, 1, 0, 0);
-        yard.station(7, 1, 0, 0);
+        RailYard yard = Lay.lineWithEnds();
         yard.station(5, 1, 0, 3);
         yard.train(2, 1, 0, 1, 1);
         yard.order(0, 1);
@@ -82,9 +80,7 @@ public final class BlockedLimitsTest {
 
     private static void hasSpeedZeroAndNoneAhead() {
         CHECK.about("Terms: has speed 0 and none ahead");
-        RailYard yard = Lay.line(new RailYard(8, 3), 1, 7);
-        yard.station(0, 1, 0, 0);
-        yard.station(7, 1, 0, 0);
+        RailYard yard = Lay.lineWithEnds();
         yard.signal(3, 1, 0, 1, true);
         yard.signal(3, 1, 0, 3, true);
         yard.train(1, 1, 0, 1, 1);
@@ -173,17 +169,7 @@ public final class BlockedLimitsTest {
 
     private static void waitsForWhatOneHasAhead() {
         CHECK.about("Terms: that holds a piece: one that it has ahead too");
-        RailYard yard = new RailYard(8, 6);
-        Lay.line(yard, 3, 7);
-        for (int y = 0; y < 6; y++) {
-            yard.track(5, y, 1, true);
-        }
-        yard.station(7, 3, 0, 0);
-        yard.station(5, 5, 1, 0);
-        yard.train(0, 3, 0, 1, 1);
-        yard.train(5, 1, 1, 2, 2);
-        yard.order(0, 0);
-        yard.order(1, 1);
+        RailYard yard = Lay.crossroads(2);
         yard.tick(1);
         CHECK.due("the first goes", yard.motion(0), 1006);
         CHECK.due("the second stands", yard.motion(1), 0);
@@ -193,9 +179,7 @@ public final class BlockedLimitsTest {
     /** Train 2 waits for 0 and 1, which are blocked, and for 3, which has no orders at first. */
     private static void eachWaitsForOneOfTheSet() {
         CHECK.about("Terms: of which each waits for one of the set");
-        RailYard yard = Lay.line(new RailYard(8, 3), 1, 7);
-        yard.station(0, 1, 0, 0);
-        yard.station(7, 1, 0, 0);
+        RailYard yard = Lay.lineWithEnds();
         yard.train(3, 1, 0, 1, 1);
         yard.train(6, 1, 0, 3, 1);
         yard.train(0, 1, 0, 1, 1);

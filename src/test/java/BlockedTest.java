@@ -12,15 +12,8 @@ public final class BlockedTest {
         CHECK.end();
     }
 
-    private static RailYard lineWithEnds() {
-        RailYard yard = Lay.line(new RailYard(8, 3), 1, 7);
-        yard.station(0, 1, 0, 0);
-        yard.station(7, 1, 0, 0);
-        return yard;
-    }
-
     private static void faceToFace() {
-        RailYard yard = lineWithEnds();
+        RailYard yard = Lay.lineWithEnds();
         yard.train(2, 1, 0, 1, 1);
         yard.train(5, 1, 0, 3, 1);
         CHECK.due("without orders", yard.blocked(), 0);
@@ -36,7 +29,7 @@ public final class BlockedTest {
     }
 
     private static void oneThatWaitsForThem() {
-        RailYard yard = lineWithEnds();
+        RailYard yard = Lay.lineWithEnds();
         yard.signal(4, 1, 0, 1, true);
         yard.signal(4, 1, 0, 3, true);
         yard.train(1, 1, 0, 1, 1);
@@ -57,7 +50,7 @@ public final class BlockedTest {
     }
 
     private static void noRing() {
-        RailYard yard = lineWithEnds();
+        RailYard yard = Lay.lineWithEnds();
         yard.train(1, 1, 0, 1, 1);
         yard.train(3, 1, 0, 1, 1);
         yard.train(5, 1, 0, 1, 1);
@@ -90,7 +83,7 @@ public final class BlockedTest {
     }
 
     private static void whoIsNotBlocked() {
-        RailYard yard = lineWithEnds();
+        RailYard yard = Lay.lineWithEnds();
         yard.signal(3, 1, 0, 1, true);
         yard.signal(3, 1, 0, 3, true);
         yard.train(1, 1, 0, 1, 1);

@@ -10,6 +10,32 @@ final class Lay {
         return yard;
     }
 
+    /** Straight track from west to east; station 0 is on its west end, 1 on its east end. */
+    static RailYard lineWithEnds() {
+        RailYard yard = line(new RailYard(8, 3), 1, 7);
+        yard.station(0, 1, 0, 0);
+        yard.station(7, 1, 0, 0);
+        return yard;
+    }
+
+    /**
+     * Track from west to east that track from north to south crosses on (5, 3). Train 0 is ordered
+     * to the east end, station 0; train 1, so long, to the south end, station 1.
+     */
+    static RailYard crossroads(int length) {
+        RailYard yard = line(new RailYard(8, 6), 3, 7);
+        for (int y = 0; y < 6; y++) {
+            yard.track(5, y, 1, true);
+        }
+        yard.station(7, 3, 0, 0);
+        yard.station(5, 5, 1, 0);
+        yard.train(0, 3, 0, 1, 1);
+        yard.train(5, 1, 1, 2, length);
+        yard.order(0, 0);
+        yard.order(1, 1);
+        return yard;
+    }
+
     /** A ring with its corners at (0, 0) and (right, bottom). */
     static RailYard ring(RailYard yard, int right, int bottom) {
         yard.track(0, 0, 5, true);

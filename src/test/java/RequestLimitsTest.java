@@ -256,17 +256,7 @@ public final class RequestLimitsTest {
 
     private static void crossesOneAhead() {
         CHECK.about("Terms: a piece that a train holds: one that it has ahead too");
-        RailYard yard = new RailYard(8, 6);
-        Lay.line(yard, 3, 7);
-        for (int y = 0; y < 6; y++) {
-            yard.track(5, y, 1, true);
-        }
-        yard.station(7, 3, 0, 0);
-        yard.station(5, 5, 1, 0);
-        yard.train(0, 3, 0, 1, 1);
-        yard.train(5, 1, 1, 2, 1);
-        yard.order(0, 0);
-        yard.order(1, 1);
+        RailYard yard = Lay.crossroads(1);
         yard.tick(1);
         CHECK.due("motion of the first", yard.motion(0), 1006);
         CHECK.due("motion of the second", yard.motion(1), 0);

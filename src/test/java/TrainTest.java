@@ -138,9 +138,7 @@ public final class TrainTest {
     }
 
     private static void orders() {
-        RailYard yard = Lay.line(new RailYard(8, 3), 1, 7);
-        yard.station(0, 1, 0, 0);
-        yard.station(7, 1, 0, 0);
+        RailYard yard = Lay.lineWithEnds();
         CHECK.due("order: no train", yard.order(0, 0), false);
         yard.train(3, 1, 0, 1, 1);
         CHECK.due("order: no station", yard.order(0, 2), false);

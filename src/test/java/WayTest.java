@@ -43,9 +43,7 @@ public final class WayTest {
     }
 
     private static void oneWay() {
-        RailYard yard = Lay.line(new RailYard(8, 3), 1, 7);
-        yard.station(0, 1, 0, 0);
-        yard.station(7, 1, 0, 0);
+        RailYard yard = Lay.lineWithEnds();
         yard.signal(3, 1, 0, 3, true);
         CHECK.due("against a signal", yard.toGo(2, 1, 0, 1, 1), -1);
         CHECK.due("from it on, though it can't be", yard.toGo(3, 1, 0, 1, 1), 40);
